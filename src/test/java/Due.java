@@ -1,12 +1,42 @@
-/** Counts and prints the answers that are not the ones that are due, each with the promise that asks for it. */
+import java.util.ArrayList;
+import java.util.List;
+
+/** Counts and prints the answers that are not the ones that are due, each with what asks for it. */
 final class Due {
     private int wrong = 0;
+    private String place = "";
+    private String sentence = "";
+    private final List<String> held = new ArrayList<>();
 
     void is(int promise, String call, long got, long want) {
         if (got != want) {
             wrong++;
             System.out.println("promise " + promise + ": " + call + " answered " + got + ", due is " + want);
         }
+    }
+
+    /** What follows tests this sentence, which stands at this place of the document. */
+    void holds(String place, String sentence) {
+        this.place = place;
+        this.sentence = sentence;
+        held.add(place + " | " + sentence);
+    }
+
+    /** An answer that the sentence told last asks for. */
+    void is(String call, long got, long want) {
+        same(call, Long.toString(got), Long.toString(want));
+    }
+
+    void same(String what, String got, String want) {
+        if (!got.equals(want)) {
+            wrong++;
+            System.out.println(place + ", \"" + sentence + "\": " + what + " answered " + got + ", due is " + want);
+        }
+    }
+
+    /** All sentences told so far, each as "place | sentence". */
+    List<String> heldSentences() {
+        return held;
     }
 
     /** Ends the test, with exit code 1 if an answer was wrong. */

@@ -98,6 +98,8 @@ final class ConventionsSentences {
         due.is("count(10)", x.count(10), 74);
         due.is("put of a bad character that would be too long", x.put(Due.word("b;b b;b;")), -2);
         due.is("put of a bad code that would be too long", x.put(-1), -2);
+        due.is("put of bits above zeros that would be too long", x.put(1L << 63 | Due.word("b;b;b;")), -2);
+        due.is("put that would be too long", x.put(Due.word("b;b;b;b")), -4);
         notSerialAndNotSoMany();
     }
 

@@ -20,6 +20,7 @@ public final class FaceTest {
         same("methods", methods(), METHODS);
         same("constants", constants(), CONSTANTS);
         same("constructors", constructors(), "public SkewEdges()");
+        classesInside();
         DUE.end();
     }
 
@@ -53,6 +54,26 @@ public final class FaceTest {
             found.append(constructor);
         }
         return found.toString();
+    }
+
+    /** The classes inside are static and not public, and no method of theirs bears the name of a public one. */
+    private static void classesInside() {
+        TreeSet<String> names = new TreeSet<>();
+        for (String method : METHODS.split(" ")) {
+            names.add(method.substring(0, method.indexOf('(')));
+        }
+        for (Class<?> inside : SkewEdges.class.getDeclaredClasses()) {
+            int modifiers = inside.getModifiers();
+            same(inside.getName() + " static", Modifier.toString(modifiers & Modifier.STATIC), "static");
+            same(inside.getName() + " public", Modifier.toString(modifiers & (Modifier.PUBLIC | Modifier.PROTECTED)), "");
+            for (Method method : inside.getDeclaredMethods()) {
+                same(method.toString(), names.contains(method.getName()) ? "bears a public name" : "", "");
+            }
+        }
+        for (Method method : SkewEdges.class.getDeclaredMethods()) {
+            boolean hides = Modifier.isPrivate(method.getModifiers()) && names.contains(method.getName());
+            same(method.toString(), hides ? "bears a public name" : "", "");
+        }
     }
 
     private static void same(String what, String got, String want) {

@@ -18,11 +18,13 @@ final class OrdersSentences {
         whatIsCommittedAlone();
         serialOverOthers();
         notSerial();
+        notSerialNoMore();
         lowestNumberNext();
         lowestNumberOfTwelve();
         safeSnapshot();
         safeSnapshotOfTheOthersActiveAtItsBegin();
         safeSnapshotByTheMomentOfTheCommit();
+        safeSnapshotWithAnEdgeToAnActiveOne();
         noSafeSnapshot();
         notKnownYet();
     }
@@ -245,6 +247,27 @@ final class OrdersSentences {
         }
     }
 
+    private void notSerialNoMore() {
+        due.holds(PLACE, "All is serial if no dependencies lead from a transaction,");
+        SkewEdges z = new SkewEdges();
+        z.rule(3);
+        z.begin();
+        z.begin();
+        z.save(0);
+        z.read(0, 0);
+        z.read(1, 1);
+        z.write(0, 1, 1);
+        z.write(1, 0, 1);
+        z.commit(0);
+        z.commit(1);
+        due.is("count(9), a ring of two", z.count(9), 0);
+        z.restore(0);
+        z.commit(0);
+        z.commit(1);
+        due.is("count(9), the same two have done nothing", z.count(9), 1);
+        order(z, 0, 1);
+    }
+
     private void lowestNumberNext() {
         due.holds(PLACE, "Then there is an order: of the committed transactions that are not in it yet, and which no other "
             + "of these has a dependency to, always the one with the lowest number is next.");
@@ -371,6 +394,33 @@ final class OrdersSentences {
         due.is("of(2, 8), the edge came behind its begin", late.of(2, 8), 0);
     }
 
+    private void safeSnapshotWithAnEdgeToAnActiveOne() {
+        due.holds(PLACE, "none of them was committed with an edge to one that was committed ahead of its begin");
+        SkewEdges x = new SkewEdges();
+        x.begin();
+        x.begin();
+        x.read(0, 0);
+        x.write(1, 0, 1);
+        x.begin();
+        x.commit(0);
+        due.is("of(2, 8), an edge to an active one", x.of(2, 8), 2);
+        x.commit(1);
+        due.is("of(2, 8), an edge to one committed behind its begin", x.of(2, 8), 1);
+        SkewEdges y = new SkewEdges();
+        y.begin();
+        y.begin();
+        y.read(0, 0);
+        y.begin();
+        y.begin();
+        y.write(3, 0, 1);
+        y.commit(0);
+        due.is("of(2, 8), an edge to one begun behind its begin", y.of(2, 8), 2);
+        y.commit(1);
+        due.is("of(2, 8), the same, all others have ended", y.of(2, 8), 1);
+        y.commit(3);
+        due.is("of(2, 8), the same, committed", y.of(2, 8), 1);
+    }
+
     private void noSafeSnapshot() {
         due.holds(PLACE, "it has none (0) if one of them was committed so;");
         SkewEdges x = new SkewEdges();
@@ -388,6 +438,16 @@ final class OrdersSentences {
         due.is("of(3, 8), committed", x.of(3, 8), 0);
         x.abort(0);
         due.is("of(3, 8), all have ended", x.of(3, 8), 0);
+        SkewEdges first = new SkewEdges();
+        first.begin();
+        first.begin();
+        first.write(0, 0, 1);
+        first.read(1, 0);
+        first.commit(0);
+        first.begin();
+        due.is("of(2, 8), the first one was committed ahead of its begin", first.of(2, 8), 2);
+        first.commit(1);
+        due.is("of(2, 8), an edge to the first one of all", first.of(2, 8), 0);
     }
 
     private void notKnownYet() {

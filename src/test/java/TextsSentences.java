@@ -303,6 +303,9 @@ final class TextsSentences {
             due.is("put() of " + (many - 1) + " to 80", x.put(word >>> 8), many == 1 ? -2 : 80);
             due.is("put() of " + many, x.put(word), -4);
             due.is("put() of a bad code", x.put(word & ~255L | 32), -2);
+            due.is("put(0)", x.put(0), -2);
+            due.is("put() of a character above a gap", x.put((long) 'b' << 16 | 'b'), -2);
+            due.is("put() of a bit above a gap", x.put(1L << 63 | 'b'), -2);
             due.is("count(10)", x.count(10), 80);
         }
     }

@@ -10,6 +10,8 @@ final class UndoSentences {
 
     void run() {
         undoesEachChange();
+        undoesMoments();
+        undoesAllOfTheLastTransaction();
         undoLeavesThePad();
         undoLeavesTheSlots();
         undoLeavesTheHistory();
@@ -81,6 +83,54 @@ final class UndoSentences {
 
     private static String withoutPadAndHistory(SkewEdges x) {
         return Answers.of(x).replaceAll("(count10|count11|fault0)=\\S+", "");
+    }
+
+    private void undoesMoments() {
+        due.holds("Promise 22", "is as it was before it.");
+        SkewEdges x = new SkewEdges();
+        x.begin();
+        x.begin();
+        x.save(0);
+        x.undo();
+        x.commit(0);
+        x.begin();
+        due.is("of(1, 1), begun behind the commit", x.of(1, 1), 3);
+        due.is("of(0, 2)", x.of(0, 2), 2);
+        x.restore(0);
+        due.is("of(1, 1), restored", x.of(1, 1), 2);
+        due.is("of(0, 2), restored", x.of(0, 2), -6);
+        due.is("count(4), restored", x.count(4), 2);
+        due.is("undo()", x.undo(), 3);
+        due.is("of(1, 1), undone", x.of(1, 1), 3);
+        due.is("of(0, 2), undone", x.of(0, 2), 2);
+        due.is("count(4), undone", x.count(4), 3);
+    }
+
+    private void undoesAllOfTheLastTransaction() {
+        due.holds("Promise 22", "everything except the pad, the slots and the history is as it was before it.");
+        SkewEdges x = new SkewEdges();
+        for (int number = 0; number < 12; number++) {
+            x.begin();
+        }
+        x.write(11, 15, 1);
+        x.save(1);
+        x.write(11, 15, 2);
+        x.undo();
+        due.is("read(11, 15), undone", x.read(11, 15), 1);
+        x.undo();
+        due.is("of(11, 3)", x.of(11, 3), 0);
+        x.read(11, 14);
+        x.undo();
+        due.is("of(11, 3), undone", x.of(11, 3), 0);
+        x.write(11, 15, 3);
+        x.commit(11);
+        due.is("value(15)", x.value(15), 3);
+        x.restore(1);
+        due.is("read(11, 15), restored", x.read(11, 15), 1);
+        x.abort(11);
+        x.undo();
+        due.is("of(11, 0), undone", x.of(11, 0), 0);
+        due.is("of(11, 7), undone", x.of(11, 7), -6);
     }
 
     private void undoLeavesThePad() {

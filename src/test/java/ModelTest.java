@@ -2,12 +2,13 @@ import java.util.Random;
 
 /** All promises: long runs of calls, the same ones each time, on the class and on the plain model of the document. */
 public final class ModelTest {
-    private static final int RUNS = 700, CALLS = 150;
+    private static final int RUNS = 4000, CALLS = 512, MOST_CALLS_OF_A_CHANGE = 40, LOOKS = 4;
     private static final String SIGNS = "bbrrwwcx0123456789.=;;";
 
     private final Due due = new Due();
     private final Random random = new Random(20261119);
-    private SkewEdges real;
+    private SkewEdges object;
+    private int calls;
     private PlainModel model;
     private int keys;
     private int refusedFor1;
@@ -24,17 +25,26 @@ public final class ModelTest {
         test.due.end();
     }
 
+    /** What an object answers behind its 512th call is free, so all calls of a run are counted. */
+    private SkewEdges real() {
+        calls++;
+        return object;
+    }
+
     private void oneRun(int run) {
-        real = new SkewEdges();
+        object = new SkewEdges();
         model = new PlainModel();
+        calls = 0;
         keys = 2 + run % 15;
         for (int i = 0; i < run % 7; i++) {
-            due.is(3, "begin()", real.begin(), model.begin());
+            due.is(3, "begin()", real().begin(), model.begin());
         }
-        for (int call = 0; call < CALLS; call++) {
-            change();
-            if (call % 4 == 0) {
-                compareAll();
+        while (calls < CALLS) {
+            if (calls + MOST_CALLS_OF_A_CHANGE <= CALLS) {
+                change();
+            }
+            for (int i = 0; i < LOOKS && calls < CALLS; i++) {
+                look();
             }
         }
     }
@@ -45,18 +55,18 @@ public final class ModelTest {
         int k = key();
         int v = random.nextInt(40) == 0 ? odd(1000) : random.nextInt(1000);
         if (kind < 12) {
-            due.is(3, "begin()", real.begin(), model.begin());
+            due.is(3, "begin()", real().begin(), model.begin());
         } else if (kind < 46) {
-            due.is(4, "read(" + t + ", " + k + ")", real.read(t, k), model.read(t, k));
+            due.is(4, "read(" + t + ", " + k + ")", real().read(t, k), model.read(t, k));
         } else if (kind < 62) {
-            due.is(5, "write(" + t + ", " + k + ", " + v + ")", real.write(t, k, v), model.write(t, k, v));
+            due.is(5, "write(" + t + ", " + k + ", " + v + ")", real().write(t, k, v), model.write(t, k, v));
         } else if (kind < 73) {
             commit(t);
         } else if (kind < 75) {
-            due.is(7, "abort(" + t + ")", real.abort(t), model.abort(t));
+            due.is(7, "abort(" + t + ")", real().abort(t), model.abort(t));
         } else if (kind < 80) {
             int rule = random.nextInt(10) == 0 ? odd(4) : random.nextInt(4);
-            due.is(2, "rule(" + rule + ")", real.rule(rule), model.rule(rule));
+            due.is(2, "rule(" + rule + ")", real().rule(rule), model.rule(rule));
         } else if (kind < 91) {
             text();
         } else {
@@ -65,7 +75,7 @@ public final class ModelTest {
     }
 
     private void commit(int t) {
-        int answer = real.commit(t);
+        int answer = real().commit(t);
         due.is(6, "commit(" + t + ")", answer, model.commit(t));
         refusedFor1 += answer == 1 ? 1 : 0;
         refusedFor2 += answer == 2 ? 1 : 0;
@@ -74,11 +84,11 @@ public final class ModelTest {
     private void past(int kind) {
         int slot = random.nextInt(12) == 0 ? odd(2) : random.nextInt(2);
         if (kind < 95) {
-            due.is(22, "undo()", real.undo(), model.undo());
+            due.is(22, "undo()", real().undo(), model.undo());
         } else if (kind < 98) {
-            due.is(23, "save(" + slot + ")", real.save(slot), model.save(slot));
+            due.is(23, "save(" + slot + ")", real().save(slot), model.save(slot));
         } else {
-            due.is(24, "restore(" + slot + ")", real.restore(slot), model.restore(slot));
+            due.is(24, "restore(" + slot + ")", real().restore(slot), model.restore(slot));
         }
     }
 
@@ -93,16 +103,16 @@ public final class ModelTest {
         }
         for (int i = 0; i < text.length(); i += 8) {
             long word = Due.word(text.substring(i, Math.min(text.length(), i + 8)));
-            due.is(18, "put(" + word + ")", real.put(word), model.put(word));
-            due.is(20, "fault()", real.fault(), model.fault());
+            due.is(18, "put(" + word + ")", real().put(word), model.put(word));
+            due.is(20, "fault()", real().fault(), model.fault());
         }
         long word = random.nextLong() >>> 8 * random.nextInt(8);
-        due.is(18, "put(" + word + ")", real.put(word), model.put(word));
+        due.is(18, "put(" + word + ")", real().put(word), model.put(word));
         if (random.nextInt(3) != 0) {
-            due.is(21, "carryOut() of " + text, real.carryOut(), model.carryOut());
+            due.is(21, "carryOut() of " + text, real().carryOut(), model.carryOut());
         }
         if (random.nextInt(2) == 0) {
-            due.is(19, "wipe()", real.wipe(), model.wipe());
+            due.is(19, "wipe()", real().wipe(), model.wipe());
         }
     }
 
@@ -148,41 +158,50 @@ public final class ModelTest {
         return odd[random.nextInt(odd.length)];
     }
 
-    private void compareAll() {
+    private void look() {
         int total = model.count(0);
-        for (int what = -1; what <= 12; what++) {
-            due.is(12, "count(" + what + ")", real.count(what), model.count(what));
-        }
-        notSerial += real.count(9) == 0 ? 1 : 0;
-        for (int place = -1; place <= total; place++) {
-            due.is(13, "order(" + place + ")", real.order(place), model.order(place));
-        }
-        for (int key = -1; key <= 16; key++) {
-            due.is(8, "value(" + key + ")", real.value(key), model.value(key));
-        }
-        for (int rule = -1; rule <= 4; rule++) {
-            due.is(17, "doomed(" + rule + ")", real.doomed(rule), model.doomed(rule));
-        }
-        for (int t = -1; t <= total; t++) {
-            compareOne(t, total);
+        int t = random.nextInt(20) == 0 ? odd(total) : random.nextInt(total + 1);
+        int kind = random.nextInt(20);
+        if (kind < 4) {
+            int what = random.nextInt(20) == 0 ? odd(12) : random.nextInt(3) == 0 ? 9 : random.nextInt(12);
+            int answer = real().count(what);
+            due.is(12, "count(" + what + ")", answer, model.count(what));
+            notSerial += what == 9 && answer == 0 ? 1 : 0;
+        } else if (kind < 6) {
+            int place = random.nextInt(total + 2) - 1;
+            due.is(13, "order(" + place + ")", real().order(place), model.order(place));
+        } else if (kind < 7) {
+            int key = key();
+            due.is(8, "value(" + key + ")", real().value(key), model.value(key));
+        } else if (kind < 9) {
+            int rule = random.nextInt(20) == 0 ? odd(4) : random.nextInt(4);
+            due.is(17, "doomed(" + rule + ")", real().doomed(rule), model.doomed(rule));
+        } else if (kind < 10) {
+            due.is(20, "fault()", real().fault(), model.fault());
+        } else {
+            lookAtOne(t, kind);
         }
     }
 
-    private void compareOne(int t, int total) {
-        for (int what = -1; what <= 9; what++) {
-            due.is(9, "of(" + t + ", " + what + ")", real.of(t, what), model.of(t, what));
-        }
-        unsafe += real.of(t, 8) == 0 ? 1 : 0;
-        for (int to = -1; to <= total; to++) {
-            due.is(10, "edge(" + t + ", " + to + ")", real.edge(t, to), model.edge(t, to));
-            due.is(11, "over(" + t + ", " + to + ")", real.over(t, to), model.over(t, to));
-        }
-        for (int key = -1; key <= 16; key++) {
-            due.is(14, "sees(" + t + ", " + key + ")", real.sees(t, key), model.sees(t, key));
-        }
-        due.is(15, "would(" + t + ")", real.would(t), model.would(t));
-        for (int what = -1; what <= 3; what++) {
-            due.is(16, "triple(" + t + ", " + what + ")", real.triple(t, what), model.triple(t, what));
+    private void lookAtOne(int t, int kind) {
+        int to = random.nextInt(20) == 0 ? odd(12) : random.nextInt(model.count(0) + 1);
+        int key = key();
+        if (kind < 13) {
+            int what = random.nextInt(20) == 0 ? odd(9) : random.nextInt(3) == 0 ? 8 : random.nextInt(9);
+            int answer = real().of(t, what);
+            due.is(9, "of(" + t + ", " + what + ")", answer, model.of(t, what));
+            unsafe += what == 8 && answer == 0 ? 1 : 0;
+        } else if (kind < 14) {
+            due.is(10, "edge(" + t + ", " + to + ")", real().edge(t, to), model.edge(t, to));
+        } else if (kind < 15) {
+            due.is(11, "over(" + t + ", " + to + ")", real().over(t, to), model.over(t, to));
+        } else if (kind < 17) {
+            due.is(14, "sees(" + t + ", " + key + ")", real().sees(t, key), model.sees(t, key));
+        } else if (kind < 18) {
+            due.is(15, "would(" + t + ")", real().would(t), model.would(t));
+        } else {
+            int what = random.nextInt(20) == 0 ? odd(3) : random.nextInt(3);
+            due.is(16, "triple(" + t + ", " + what + ")", real().triple(t, what), model.triple(t, what));
         }
     }
 

@@ -18,6 +18,7 @@ public final class RulesTest {
         List<String> lines = Files.readAllLines(Path.of("src/main/java/SkewEdges.java"));
         words(lines);
         methods(lines);
+        makers(lines);
         if (wrong != 0) {
             System.exit(1);
         }
@@ -51,6 +52,23 @@ public final class RulesTest {
                 if (matcher.group(2).split(",").length > MOST_PARAMETERS) {
                     say(i, "has too many parameters");
                 }
+            }
+        }
+    }
+
+    /** All calls of a run share one room, so what an object needs is made by the constructors, and a call makes nothing. */
+    private static void makers(List<String> lines) {
+        Pattern constructor = Pattern.compile("^( +)(public )?[A-Z]\\w*\\(\\) \\{$");
+        String end = null;
+        for (int i = 0; i < lines.size(); i++) {
+            String line = lines.get(i);
+            Matcher matcher = constructor.matcher(line);
+            if (matcher.matches()) {
+                end = matcher.group(1) + "}";
+            } else if (line.equals(end)) {
+                end = null;
+            } else if (end == null && line.matches(".*\\b(new\\b|clone\\(|copyOf|substring|toCharArray).*")) {
+                say(i, "makes an object outside a constructor");
             }
         }
     }

@@ -111,9 +111,11 @@ public final class ReadmeTest {
 
     private static void tables(Readme readme) throws IOException {
         TreeSet<String> due = new TreeSet<>();
+        String examples = readme.blocks("java").toString();
         for (Method method : SkewEdges.class.getDeclaredMethods()) {
             if (Modifier.isPublic(method.getModifiers())) {
                 due.add(method.getName());
+                check("no example calls " + method.getName(), examples.contains("x." + method.getName() + "("));
             }
         }
         try (Stream<Path> tests = Files.list(Path.of("src/test/java"))) {
